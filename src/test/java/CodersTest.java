@@ -112,6 +112,12 @@ public final class CodersTest {
         x.mark(0, 0, 0, 30, 33, 4);
         x.mark(0, 1, 0, 30, 33, 3);
         CHECK.due("another value", x.agree(0, 0, 1, 0, 2), 2);
+        x.mark(0, 0, 0, 40, 50, 1);
+        x.mark(0, 1, 0, 44, 50, 1);
+        CHECK.due("6 of 10", x.agree(0, 0, 1, 0, 2), 3);
+        x.mark(0, 0, 0, 60, 64, 7);
+        x.mark(0, 1, 0, 62, 70, 7);
+        CHECK.due("2 of 4, and more behind it", x.agree(0, 0, 1, 0, 2), 3);
         CHECK.due("the third coder has none", x.agree(0, 0, 2, 0, 2), 0);
         CHECK.due("of none", x.agree(0, 2, 0, 0, 2), 0);
     }

@@ -72,6 +72,7 @@ public final class FigureTest {
         for (int tick = 0; tick < places.length; tick++) {
             CHECK.due("place at " + tick, x.at(tick, 1), places[tick]);
         }
+        between();
         HandArchive y = new HandArchive();
         y.sign(0, 8, 8, 0, 0, 0, 0);
         y.sign(0, 0, 0, 0, 0, 0, 0);
@@ -82,6 +83,20 @@ public final class FigureTest {
         for (int tick = 0; tick < back.length; tick++) {
             CHECK.due("back, place at " + tick, y.at(tick, 1), back[tick]);
         }
+    }
+
+    /** A passing goes from where the one ends, not from where it began. */
+    private static void between() {
+        HandArchive x = new HandArchive();
+        x.sign(0, 4, 8, 0, 0, 0, 0);
+        x.sign(0, 1, 1, 0, 0, 0, 0);
+        x.item(SIGN, 0, 0, 0);
+        x.item(SIGN, 1, 0, 0);
+        int[] places = {4, 4, 5, 8, 8, 8, 7, 4, 1, 1, 1, 1, NONE};
+        for (int tick = 0; tick < places.length; tick++) {
+            CHECK.due("between, place at " + tick, x.at(tick, 1), places[tick]);
+        }
+        times(x, 1, 6, 9, 12);
     }
 
     private static void turns() {
