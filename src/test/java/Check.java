@@ -1,17 +1,23 @@
 /** Counts answers that are not the ones that are due, and prints them. */
-final class Check {
+class Check {
     interface Call {
         void run();
     }
 
     private int wrong = 0;
     private int asked = 0;
+    private String subject = "";
+
+    /** Stands ahead of each wrong answer from now on. */
+    void about(String newSubject) {
+        subject = newSubject;
+    }
 
     void due(String call, long got, long want) {
         asked++;
         if (got != want) {
             wrong++;
-            System.out.println(call + " answered " + got + ", due is " + want);
+            System.out.println(subject + call + " answered " + got + ", due is " + want);
         }
     }
 
@@ -32,7 +38,7 @@ final class Check {
             got = e.getClass().getSimpleName();
         }
         wrong++;
-        System.out.println(call + " threw " + got + ", due is " + want.getSimpleName());
+        System.out.println(subject + call + " threw " + got + ", due is " + want.getSimpleName());
     }
 
     void noSuch(String call, Call run) {
